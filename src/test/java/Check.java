@@ -1,0 +1,104 @@
+import java.util.NoSuchElementException;
+
+/** What the tests share: typing texts, asking, counting the answers that are not due. */
+final class Check {
+    private final String name;
+    private int asked = 0;
+    private int wrong = 0;
+
+    Check(String name) {
+        this.name = name;
+    }
+
+    static PlanDesk desk(String text) {
+        PlanDesk desk = new PlanDesk();
+        type(desk, text);
+        desk.program();
+        return desk;
+    }
+
+    static boolean type(PlanDesk desk, String text) {
+        for (int from = 0; from < text.length(); from += 8) {
+            int n = Math.min(8, text.length() - from);
+            if (!desk.type(word(text.substring(from, from + n)), n)) {
+                return false;
+            }
+        }
+        return true;
+    }
+
+    static long word(String text) {
+        long word = 0;
+        for (int i = 0; i < text.length(); i++) {
+            word = word << 8 | text.charAt(i);
+        }
+        return word;
+    }
+
+    void due(String call, long want, long got) {
+        asked++;
+        if (want != got) {
+            wrong++;
+            System.out.println(name + ": " + call + " answered " + got + ", due is " + want);
+        }
+    }
+
+    void due(String call, boolean want, boolean got) {
+        due(call, want ? 1 : 0, got ? 1 : 0);
+    }
+
+    /** The number of RULES that the text has as a PROGRAM of its own, without a FAULT. */
+    void reads(String text, int rules) {
+        PlanDesk desk = new PlanDesk();
+        due("type " + text, true, type(desk, text));
+        due("program of " + text, rules, program(desk));
+        due("kind of no fault: " + text, 0, desk.fault(0));
+        due("place of no fault: " + text, 0, desk.fault(1));
+    }
+
+    /** The FAULT that the text has as a PROGRAM of its own. */
+    void faults(String text, int kind, int place) {
+        PlanDesk desk = new PlanDesk();
+        due("type " + text, true, type(desk, text));
+        due("program of " + text, THREW, program(desk));
+        due("fault kind of " + text, kind, desk.fault(0));
+        due("fault place of " + text, place, desk.fault(1));
+    }
+
+    static final int THREW = Integer.MIN_VALUE;
+
+    static int program(PlanDesk desk) {
+        try {
+            return desk.program();
+        } catch (IllegalArgumentException e) {
+            return THREW;
+        }
+    }
+
+    static int rule(PlanDesk desk, int r, int what) {
+        try {
+            return desk.rule(r, what);
+        } catch (NoSuchElementException e) {
+            return THREW;
+        }
+    }
+
+    static int literal(PlanDesk desk, int r, int i, int what) {
+        try {
+            return desk.literal(r, i, what);
+        } catch (NoSuchElementException e) {
+            return THREW;
+        }
+    }
+
+    static String times(int n, String text) {
+        return text.repeat(n);
+    }
+
+    void end() {
+        System.out.println(name + ": " + asked + " answers, " + wrong + " wrong");
+        if (wrong != 0 || asked == 0) {
+            System.exit(1);
+        }
+    }
+}
