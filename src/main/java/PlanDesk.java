@@ -989,7 +989,7 @@ public final class PlanDesk {
         }
 
         private boolean readTotal(Literal atom) {
-            if (atom.kind != Literal.HEAD || clause.total != 0) {
+            if (atom.kind != Literal.HEAD || clause.total > 0) {
                 return refuse(place);
             }
             clause.total = (int) value;
@@ -1005,8 +1005,8 @@ public final class PlanDesk {
         }
 
         private boolean readAnything(Literal atom) {
-            boolean asksOne = atom.kind == Literal.ATOM && clause.total == 0;
-            if (atom.kind != Literal.DENIED && !asksOne) {
+            boolean counts = atom.kind == Literal.ATOM && clause.total > 0;
+            if (atom.kind == Literal.HEAD || counts) {
                 return refuse(place);
             }
             atom.add(ANYTHING);

@@ -22,7 +22,25 @@ public final class HangsTest {
                 CHECK.due("chain hangs(" + p + ", " + q + ")", p < q, longest.hangs(p, q));
             }
         }
+        CHECK.due("chain hangs(0, 16)", false, longest.hangs(0, 16));
+        CHECK.due("chain hangs(16, 15)", false, longest.hangs(16, 15));
+        shorter();
         CHECK.end();
+    }
+
+    /** What hung in the PROGRAM before is gone. */
+    private static void shorter() {
+        PlanDesk desk = Check.desk("a(1):-b(1).b(1):-c(1),d(1).c(1):-d(1),b(1).");
+        for (int round = 0; round < 3; round++) {
+            Check.type(desk, "a(1):-b(1).");
+            desk.program();
+            for (int p = 0; p < 4; p++) {
+                for (int q = 0; q < 4; q++) {
+                    boolean hangs = p == 0 && q == 1;
+                    CHECK.due("shorter hangs(" + p + ", " + q + ")", hangs, desk.hangs(p, q));
+                }
+            }
+        }
     }
 
     private static void table(PlanDesk desk, String[] due) {

@@ -93,6 +93,9 @@ public final class LiteralTest {
             CHECK.due("literal(0, " + i + ", 0)", Check.THREW, Check.literal(desk, 0, i, 0));
         }
         CHECK.due("literal(1, 1, 0)", Check.THREW, Check.literal(desk, 1, 1, 0));
+        PlanDesk full = Check.desk(Check.times(30, "a(1):-1=1."));
+        CHECK.due("literal(29, 0, 1)", 2, Check.literal(full, 29, 0, 1));
+        CHECK.due("literal(30, 0, 0)", Check.THREW, Check.literal(full, 30, 0, 0));
         int[] whats = {-1, 5, 100, Integer.MIN_VALUE, Integer.MAX_VALUE};
         for (int what : whats) {
             CHECK.due("literal(0, 0, " + what + ")", Check.THREW, Check.literal(desk, 0, 0, what));

@@ -38,6 +38,7 @@ public final class ProgramTest {
         CHECK.reads("p(X):-q(X),X is 1--1.", 1);
         CHECK.reads("iss(counts,sums,leasts).mosts(i).", 0);
         CHECK.reads("p(1):-a1=b2.", 1);
+        CHECK.reads("as(it,bount,mum,beast).cost(counu,sun,leasu,mosu).", 0);
     }
 
     private static void whatAFaultLeaves() {
@@ -73,6 +74,13 @@ public final class ProgramTest {
         CHECK.due("STRATUM of p", 1, desk.predicate(1, 1));
         CHECK.due("hangs(q, q)", false, desk.hangs(0, 0));
         CHECK.due("hangs(p, q)", true, desk.hangs(1, 0));
+        Check.type(desk, "p(1).");
+        CHECK.due("program() of a FACT", 0, Check.program(desk));
+        CHECK.due("predicate(1, 0) of the one before", PlanDesk.NONE, desk.predicate(1, 0));
+        CHECK.due("hangs(1, 0) of the one before", false, desk.hangs(1, 0));
+        CHECK.due("hangs(0, 1) of the one before", false, desk.hangs(0, 1));
+        CHECK.due("rule(0, 0) of the one before", Check.THREW, Check.rule(desk, 0, 0));
+        CHECK.due("literal(0, 0, 0) of the one before", Check.THREW, Check.literal(desk, 0, 0, 0));
         CHECK.due("program() of an empty tape", 0, Check.program(desk));
         CHECK.due("no predicates", 0, desk.predicates());
         CHECK.due("no RULE", Check.THREW, Check.rule(desk, 0, 0));
