@@ -66,12 +66,18 @@ final class Check {
     }
 
     static final int THREW = Integer.MIN_VALUE;
+    private static final int THREW_ANOTHER = Integer.MIN_VALUE + 1;
+
+    /** The document names an exception; one of a class below it is another one. */
+    private static int threw(RuntimeException e, Class<?> due) {
+        return e.getClass() == due ? THREW : THREW_ANOTHER;
+    }
 
     static int program(PlanDesk desk) {
         try {
             return desk.program();
         } catch (IllegalArgumentException e) {
-            return THREW;
+            return threw(e, IllegalArgumentException.class);
         }
     }
 
@@ -79,7 +85,7 @@ final class Check {
         try {
             return desk.rule(r, what);
         } catch (NoSuchElementException e) {
-            return THREW;
+            return threw(e, NoSuchElementException.class);
         }
     }
 
@@ -87,7 +93,7 @@ final class Check {
         try {
             return desk.literal(r, i, what);
         } catch (NoSuchElementException e) {
-            return THREW;
+            return threw(e, NoSuchElementException.class);
         }
     }
 
