@@ -2,6 +2,11 @@ import java.util.NoSuchElementException;
 
 /** What the tests share: typing texts, asking, counting the answers that are not due. */
 final class Check {
+    /** As many predicates, a FACT each. */
+    static final String FIFTEEN = "a(1).b(1).c(1).d(1).e(1).f(1).g(1).h(1)."
+            + "i(1).j(1).k(1).l(1).m(1).n(1).o(1).";
+    static final String SIXTEEN = FIFTEEN + "p(1).";
+
     private final String name;
     private int asked = 0;
     private int wrong = 0;

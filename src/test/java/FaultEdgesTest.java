@@ -4,8 +4,7 @@
  */
 public final class FaultEdgesTest {
     private static final Check CHECK = new Check("FaultEdgesTest");
-    private static final String SIXTEEN = "a(1).b(1).c(1).d(1).e(1).f(1).g(1).h(1)."
-            + "i(1).j(1).k(1).l(1).m(1).n(1).o(1).p(1).";
+    private static final String SIXTEEN = Check.SIXTEEN;
     private static final String RULE = "a(1):-1=1.";
 
     /** One TOKEN of each sort, and some that are none. */

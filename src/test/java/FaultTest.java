@@ -1,8 +1,7 @@
 /** Promise 4. */
 public final class FaultTest {
     private static final Check CHECK = new Check("FaultTest");
-    private static final String SIXTEEN = "a(1).b(1).c(1).d(1).e(1).f(1).g(1).h(1)."
-            + "i(1).j(1).k(1).l(1).m(1).n(1).o(1).p(1).";
+    private static final String SIXTEEN = Check.SIXTEEN;
 
     public static void main(String[] args) {
         whatItAnswers();

@@ -19,6 +19,7 @@ public final class PromisesEdgesTest {
         programOfNothing();
         programEmptiesTheTape();
         programWithAFaultStays();
+        programReplacesAll();
         programAnswersItsRules();
         faultOfTheLatest();
         faultWithoutOne();
@@ -179,8 +180,7 @@ public final class PromisesEdgesTest {
     /** IllegalArgumentException: it has a FAULT (all but fault() stays as it is). */
     private static void programWithAFaultStays() {
         String[] faulty = {"$", "z(", "p(X).", "z(1).p(1).p(1,2).", "z(X):-p(Y).", "z(1):-!z(1).",
-            "z(count(X)):-z(X).", Check.times(31, "z(1):-1=1."), "a(1).b(1).c(1).d(1).e(1).f(1).g(1)."
-                + "h(1).i(1).j(1).k(1).l(1).m(1).n(1).o(1).p(1).q(1)."};
+            "z(count(X)):-z(X).", Check.times(31, "z(1):-1=1."), Check.SIXTEEN + "q(1)."};
         PlanDesk desk = Check.desk(GOOD);
         for (String text : faulty) {
             Check.type(desk, text);
@@ -219,6 +219,60 @@ public final class PromisesEdgesTest {
     private static void row(String when, int[] due, PlanDesk desk, int p) {
         for (int what = 0; what < due.length; what++) {
             CHECK.due("predicate(" + p + ", " + what + ") " + when, due[what], desk.predicate(p, what));
+        }
+    }
+
+    /** The tape is the PROGRAM: what was read ahead of it, good or faulty, leaves no trace. */
+    private static void programReplacesAll() {
+        String[] texts = {GOOD, "", "q(1,2,3,4).q(1,2,3,4).p(1):-q(1,1,1,_),!r(a,b).r(a,b).",
+            "p(1).p(2).q(1,1).p(1).", "r(count(X)):-q(X),p(X,1).q(X):-p(X,X),q(X).p(1,1).s(1):-!r(1).",
+            "p(1).p(1,2).", "p(X,Y):-q(X).", "p(1):-!p(1).r(1).", "p(a).r(1,1,1,1).$"};
+        for (String first : texts) {
+            for (String second : texts) {
+                for (String third : texts) {
+                    oneAfterTheOther(first, second, third);
+                }
+            }
+        }
+    }
+
+    private static void oneAfterTheOther(String... texts) {
+        PlanDesk desk = new PlanDesk();
+        PlanDesk due = new PlanDesk();
+        String all = String.join(" then ", texts);
+        for (String text : texts) {
+            PlanDesk fresh = new PlanDesk();
+            Check.type(fresh, text);
+            Check.type(desk, text);
+            int rules = Check.program(fresh);
+            CHECK.due("program of " + text + " in " + all, rules, Check.program(desk));
+            CHECK.due("fault(0) of " + text + " in " + all, fresh.fault(0), desk.fault(0));
+            CHECK.due("fault(1) of " + text + " in " + all, fresh.fault(1), desk.fault(1));
+            due = rules == Check.THREW ? due : fresh;
+        }
+        compare(desk, due, all);
+    }
+
+    private static void compare(PlanDesk got, PlanDesk due, String when) {
+        CHECK.due("predicates(): " + when, due.predicates(), got.predicates());
+        for (int p = 0; p < 5; p++) {
+            for (int what : new int[] {0, 1, 2, 3, 4, 100, 101}) {
+                CHECK.due("predicate(" + p + ", " + what + "): " + when, due.predicate(p, what),
+                        got.predicate(p, what));
+            }
+            for (int q = 0; q < 5; q++) {
+                CHECK.due("hangs(" + p + ", " + q + "): " + when, due.hangs(p, q), got.hangs(p, q));
+            }
+        }
+        for (int r = 0; r < 4; r++) {
+            for (int what = 0; what < 5; what++) {
+                CHECK.due("rule(" + r + ", " + what + "): " + when, Check.rule(due, r, what),
+                        Check.rule(got, r, what));
+                for (int i = 0; i < 4; i++) {
+                    CHECK.due("literal(" + r + ", " + i + ", " + what + "): " + when,
+                            Check.literal(due, r, i, what), Check.literal(got, r, i, what));
+                }
+            }
         }
     }
 
@@ -347,6 +401,7 @@ public final class PromisesEdgesTest {
         facts("p(1,2).p(2,1).p(1,1).p(2,2).p(1,2).", 4);
         facts("p(1,1,1,1).p(1,1,1,2).p(1,1,2,1).p(1,2,1,1).p(2,1,1,1).p(1,1,1,1).", 5);
         facts("p(1).p(01).p(000000001).", 1);
+        facts("p(9).p(10).p(11).p(19).p(90).p(91).p(99).p(100).p(101).p(109).p(110).", 11);
         facts("p(0).p(-0).p(- 0).", 1);
         facts("p(1).p(-1).p(- 1).", 2);
         facts("p(a).p(a0).p(a00).p(aa).p(b).", 5);
@@ -408,8 +463,7 @@ public final class PromisesEdgesTest {
         rule("p(1,sum(X)):-q(X).", 0, 1, 1, 2, 0);
         rule("p(1,2,least(X)):-q(X).", 0, 1, 1, 3, 0);
         rule("p(1,2,3,most(X)):-q(X).", 0, 1, 1, 4, 0);
-        rule("a(1).b(1).c(1).d(1).e(1).f(1).g(1).h(1).i(1).j(1).k(1).l(1).m(1).n(1).o(1)."
-                + "p(X):-a(X),p(X).", 15, 2, 1, 0, 1);
+        rule(Check.FIFTEEN + "p(X):-a(X),p(X).", 15, 2, 1, 0, 1);
         // the TOTAL is that of its own RULE
         PlanDesk desk = Check.desk("p(count(X)):-q(X).r(1):-q(1).s(sum(X)):-q(X).");
         CHECK.due("rule(0, 3)", 1, Check.rule(desk, 0, 3));

@@ -181,6 +181,11 @@ public final class RandomProgramsTest {
             compareRule(keeper, "what was kept behind " + text, kept, kept.rules.size() - 1);
             keeperCalls += 35;
         }
+        int calls = 1 + 11 * kept.names.size();
+        if (keeperCalls + calls < 500) {
+            comparePredicates(keeper, "what was kept behind " + text, kept);
+            keeperCalls += calls;
+        }
     }
 
     private static void comparePredicates(PlanDesk desk, String text, Oracle oracle) {

@@ -4,9 +4,8 @@
  */
 public final class TermsEdgesTest {
     private static final Check CHECK = new Check("TermsEdgesTest");
-    private static final String FIFTEEN = "a(1).b(1).c(1).d(1).e(1).f(1).g(1).h(1)."
-            + "i(1).j(1).k(1).l(1).m(1).n(1).o(1).";
-    private static final String SIXTEEN = FIFTEEN + "p(1).";
+    private static final String FIFTEEN = Check.FIFTEEN;
+    private static final String SIXTEEN = Check.SIXTEEN;
     private static final String RULE = "a(1):-1=1.";
 
     public static void main(String[] args) {
@@ -172,6 +171,8 @@ public final class TermsEdgesTest {
             CHECK.faults("p(1):-X is 1+" + word + ".", 1, 13);
             String shorter = word.substring(0, behind - 1);
             CHECK.reads(shorter + "(" + shorter + "1).", 0);
+            CHECK.reads("z" + word.substring(1) + "(z" + word.substring(1) + ").", 0);
+            CHECK.reads(shorter + "z(" + shorter + "z).", 0);
             CHECK.reads(word + "s(" + word + "1):-" + word + "s(" + word + "0).", 1);
         }
     }
