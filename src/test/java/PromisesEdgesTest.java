@@ -36,6 +36,7 @@ public final class PromisesEdgesTest {
         literalNoneSuch();
         literalAtItsLimits();
         refusedQuestionsChangeNothing();
+        lastCalls();
         CHECK.end();
     }
 
@@ -532,5 +533,25 @@ public final class PromisesEdgesTest {
         CHECK.due("fault(0)", 0, desk.fault(0));
         CHECK.due("program()", Check.THREW, Check.program(desk));
         CHECK.due("fault(1) is the length of the tape", 3, desk.fault(1));
+    }
+
+    /** An object is used for at most 512 calls: the last of them is answered as the first. */
+    private static void lastCalls() {
+        PlanDesk desk = new PlanDesk();
+        int calls = 0;
+        while (calls < 456) {
+            CHECK.due("a full tape", true, Check.type(desk, Check.times(599, " ") + "p"));
+            CHECK.due("program()", Check.THREW, Check.program(desk));
+            calls += 76;
+        }
+        CHECK.due("type " + GOOD, true, Check.type(desk, GOOD));
+        CHECK.due("program of " + GOOD, 1, Check.program(desk));
+        calls += (GOOD.length() + 7) / 8 + 1;
+        same(desk, "among the last calls");
+        calls += 30;
+        while (calls < 512) {
+            CHECK.due("the last calls", 3, desk.predicates());
+            calls++;
+        }
     }
 }
